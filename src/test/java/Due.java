@@ -1,5 +1,13 @@
 /** Counts the answers of one test program that are as due, and tells those that are not. */
 final class Due {
+  static final int BEYOND = -1000001;
+  static final int FULL = -1000002;
+  static final int KIND = -1000003;
+  static final int NONE = -1000004;
+  static final int STATE = -1000005;
+  static final int MISSING = -1000006;
+  static final int SIZE = -1000007;
+
   private static int right = 0;
   private static int wrong = 0;
   private static String where = "";
@@ -40,6 +48,13 @@ final class Due {
   static int text(SledgeStove x, String text) {
     tape(x, text);
     return x.text();
+  }
+
+  /** Lets more quarters go than one call can. */
+  static void pass(SledgeStove x, int n) {
+    for (int left = n; left > 0; left -= 96) {
+      x.quarters(Math.min(96, left));
+    }
   }
 
   /** A village from a text. */
