@@ -282,6 +282,9 @@ public final class QuartersTest {
     x.send(1);
     Due.is("on its way", x.bake(0), Due.STATE);
     Due.is("on its way, no house", x.bake(4), Due.BEYOND);
+    SledgeStove far = Due.village("house;house;house;house;house;house;house",
+        "deep warm 0 wall 3 logs 99;steep 0 9;steep 1 9;steep 2 9;steep 3 9", "steep 4 9;steep 5 9;steep 6 9;ice;out 30");
+    Due.is("far and slowly", far.bake(7), 93);
     SledgeStove z = Due.village("empty wall 40");
     Due.pass(z, 9903);
     Due.is("9903", z.bake(0), 1);

@@ -62,16 +62,10 @@ public final class RoundsTest {
     SledgeStove x = Due.village("house wall 40;house warm 60 wall 40");
     Due.is("soon", x.pace(), 1);
     Due.is("alike", Due.village("empty;house warm 20 logs 0").pace(), 1);
-    SledgeStove y = Due.village("house warm 50;joined warm 50 wall 40;house warm 50 wall 40 bound 0", "out 0");
-    int most = -1;
-    int found = 0;
-    for (int stay = 1; stay <= 12; stay++) {
-      if (y.round(stay) > most) {
-        most = y.round(stay);
-        found = stay;
-      }
-    }
-    Due.is("greatest of all", y.pace(), found);
+    paceOf("smithy warm 69 wall 13 logs 28;house warm 170 wall 23 logs 38;draughty warm 181 wall 17 logs 58",
+        "steep 0 1;steep 1 0", 2);
+    paceOf("joined warm 267 wall 39 logs 42;joined warm 339 wall 37 logs 74", "steep 0 7", 11);
+    paceOf("empty warm 104 wall 39 logs 48;deep warm 293 wall 17 logs 7", "steep 0 4", 12);
     x.send(1);
     Due.is("on its way", x.pace(), Due.STATE);
     Due.is("no house", new SledgeStove().pace(), Due.STATE);
@@ -80,6 +74,15 @@ public final class RoundsTest {
     Due.is("9700", z.pace(), 1);
     z.quarters(1);
     Due.is("9701", z.pace(), Due.STATE);
+  }
+
+  private static void paceOf(String houses, String ways, int due) {
+    SledgeStove x = Due.village(houses, ways);
+    Due.is("pace of " + houses, x.pace(), due);
+    for (int stay = 1; stay <= 12; stay++) {
+      boolean less = stay < due ? x.round(stay) < x.round(due) : x.round(stay) <= x.round(due);
+      Due.is("no better stay " + stay, less ? 1 : 0, 1);
+    }
   }
 
   private static void thrift() {
@@ -188,7 +191,11 @@ public final class RoundsTest {
     Due.pass(late, 8500);
     Due.is("8500", late.calls(12), 1);
     Due.is("24 quarters", late.now(0), 8524);
-    Due.is("8501", late.calls(1), Due.STATE);
+    Due.is("8524", late.calls(1), Due.STATE);
+    SledgeStove later = Due.village("house");
+    Due.pass(later, 8501);
+    Due.is("8501", later.calls(1), Due.STATE);
+    Due.is("no draw by it", later.count(6), 1);
   }
 
   private static void seed() {

@@ -97,6 +97,10 @@ public final class SheetsTest {
     y.sheet(3, 8, 3);
     y.load(3);
     Due.is("0 again", y.of(1, 3), 0);
+    y.write(3, 0, 7);
+    y.sheet(3, 8, 3);
+    y.load(3);
+    Due.is("the first, too", y.of(0, 3), 0);
   }
 
   private static void write() {
@@ -259,7 +263,7 @@ public final class SheetsTest {
     Due.is("house -1", x.rounds(0, 3), Due.STATE);
     x.sheet(1, 8, 0);
     Due.is("none", x.rounds(1, 3), 400);
-    x.send(2);
+    x.send(1);
     Due.is("on its way", x.rounds(1, 3), Due.STATE);
     SledgeStove y = Due.village("empty;house warm 300 wall 40 logs 99");
     y.sheet(0, 8, 40);

@@ -8,6 +8,7 @@ public final class TextsTest {
     tokens();
     faults();
     nineHouses();
+    newHouses();
     nothingChanges();
     Due.end();
   }
@@ -140,6 +141,12 @@ public final class TextsTest {
     fault("ic", 0);
     fault("icy", 0);
     fault("thaws", 0);
+    fault("thawz", 0);
+    fault("icea", 0);
+    fault("ice{", 3);
+    fault("ice`", 3);
+    fault("out 1/", 5);
+    fault("out 1:", 5);
     fault("Ice", 0);
     fault("iCe", 0);
     fault(" ice\tthaw", 4);
@@ -219,6 +226,27 @@ public final class TextsTest {
     Due.is("no finding", y.status(-1), 0);
     Due.is("five more", Due.text(y, "deep;deep;deep;deep;deep"), 5);
     Due.is("FULL by house", y.house(0), Due.FULL);
+  }
+
+  private static void newHouses() {
+    Due.promise("33 text: new houses");
+    SledgeStove y = new SledgeStove();
+    y.image();
+    Due.text(y, "proud warm 400 wall 40 logs 50 bound 5");
+    y.quarters(4);
+    Due.is("loaves", y.of(0, 5), 4);
+    y.undo();
+    Due.is("a fault", Due.text(y, "house house"), -1 - 6);
+    Due.is("house", y.house(0), 0);
+    int[] first = {0, 100, 10, 8, 60, 0};
+    for (int what = 0; what < first.length; what++) {
+      Due.is("anew " + what, y.of(0, what), first[what]);
+    }
+    y.undo();
+    Due.is("by text", Due.text(y, "house"), 1);
+    for (int what = 0; what < first.length; what++) {
+      Due.is("by text " + what, y.of(0, what), first[what]);
+    }
   }
 
   private static void nothingChanges() {

@@ -94,6 +94,7 @@ public final class WhereToTest {
     Due.is("on its way", x.stay(0, 0), Due.STATE);
     Due.is("on its way, wrong", x.stay(0, 41), Due.BEYOND);
     most();
+    longest();
     SledgeStove y = Due.village("empty");
     Due.pass(y, 9800);
     Due.is("9800", y.stay(0, 40), 0);
@@ -116,6 +117,19 @@ public final class WhereToTest {
     Due.is("as many logs", z.stay(0, 0), k);
     z.change(0, 3, k - 1);
     Due.is("one log less", z.stay(0, 0), Due.NONE);
+  }
+
+  /** The smithy gets warmer by the quarter up to the 49th, in which its logs run out. */
+  private static void longest() {
+    SledgeStove x = Due.village("house;smithy warm 32 wall 15 logs 99 bound 372", "steep 0 8;out 92");
+    Due.is("48 quarters", x.stay(1, 0), 48);
+    SledgeStove y = Due.village("house;smithy warm 40 wall 16 logs 99 bound 360", "steep 0 0;out 60");
+    Due.is("49 would do", y.stay(1, 0), Due.NONE);
+    y.send(1);
+    y.quarters(48);
+    Due.is("behind 48", y.of(1, 1), 359);
+    y.quarters(1);
+    Due.is("behind 49", y.of(1, 1), 360);
   }
 
   private static void logs() {
@@ -193,6 +207,10 @@ public final class WhereToTest {
     Due.is("no more than 40", z.straw(1), 0);
     z.change(1, 1, 98);
     Due.is("just 40", z.straw(1), 1);
+    SledgeStove five = Due.village("empty;house warm 35 wall 30", "out 0");
+    Due.is("5 more do nothing", five.straw(1), 0);
+    five.change(1, 1, 34);
+    Due.is("5 more do something", five.straw(1), 1);
     Due.is("nothing changes", y.of(2, 2), 1);
     Due.is("without houses", new SledgeStove().straw(1), Due.STATE);
     Due.is("without houses, wrong", new SledgeStove().straw(0), Due.BEYOND);
