@@ -444,13 +444,13 @@ public final class SledgeStove {
       return fail(NONE);
     }
     int found = 0;
-    int shortest = Integer.MAX_VALUE;
+    int shortest = -1;
     for (int i = 0; i < live.houses; i++) {
       int sum = 0;
       for (int j = 0; j < live.houses; j++) {
         sum += live.between(i, j);
       }
-      if (sum < shortest) {
+      if (shortest < 0 || sum < shortest) {
         shortest = sum;
         found = i;
       }
@@ -1191,8 +1191,17 @@ public final class SledgeStove {
       int n = go(house) + stay;
       for (int i = 0; i < n; i++) {
         passOne();
-        least = Math.min(least, leastWarmth());
-        chilled = chilled || coldSet() != 0;
+        watch();
+      }
+    }
+
+    void watch() {
+      for (int i = 0; i < houses; i++) {
+        House h = get(i);
+        if (h != null && h.needs()) {
+          least = Math.min(least, h.warmth);
+          chilled = chilled || h.isCold();
+        }
       }
     }
 
