@@ -218,21 +218,25 @@ public final class FullTest {
       Due.is("first " + what, x.of(0, what), first[what]);
       Due.is("second " + what, x.of(1, what), second[what]);
     }
-    Due.is("too early at 120", Due.text(x, " ".repeat(119) + ";"), -1 - 119);
-    Due.is("blanks alone", Due.text(x, " ".repeat(120)), -1 - 120);
-    Due.is("a word at the end", Due.text(x, " ".repeat(116) + "thaw"), 1);
-    Due.is("thaw", x.now(5), 0);
-    Due.is("half a word at the end", Due.text(x, " ".repeat(117) + "out"), -1 - 120);
-    Due.is("a number at the end", Due.text(x, " ".repeat(115) + "out 7"), 1);
-    Due.is("out", x.now(6), 7);
-    Due.is("a number of 116 digits", Due.text(x, "out " + "0".repeat(115) + "8"), 1);
-    Due.is("out", x.now(6), 8);
-    Due.is("a large number of 116 digits", Due.text(x, "out " + "9".repeat(116)), -1 - 4);
-    Due.is("a word of 120 letters", Due.text(x, "ice".repeat(40)), -1);
-    Due.is("120 signs", Due.text(x, ";".repeat(120)), -1);
-    Due.is("thirty items", Due.text(x, "ice;".repeat(29) + "thaw"), 30);
-    Due.is("thirty items and a sign", Due.text(x, "ice;".repeat(30)), -1 - 120);
-    Due.is("the last of them stays", x.now(5), 0);
+    tape("too early at 120", " ".repeat(119) + ";", -1 - 119);
+    tape("blanks alone", " ".repeat(120), -1 - 120);
+    Due.is("thaw", tape("a word at the end", "ice;" + " ".repeat(112) + "thaw", 2).now(5), 0);
+    tape("half a word at the end", " ".repeat(117) + "out", -1 - 120);
+    Due.is("out", tape("a number at the end", " ".repeat(115) + "out 7", 1).now(6), 7);
+    Due.is("out", tape("a number of 116 digits", "out " + "0".repeat(115) + "8", 1).now(6), 8);
+    tape("a large number of 116 digits", "out " + "9".repeat(116), -1 - 4);
+    tape("a word of 120 letters", "ice".repeat(40), -1);
+    tape("120 signs", ";".repeat(120), -1);
+    Due.is("ice", tape("thirty items", "thaw" + ";ice".repeat(29), 30).now(5), 1);
+    Due.is("no ice", tape("thirty items and a sign", "ice;".repeat(30), -1 - 120).now(5), 0);
+  }
+
+  /** A text of 120 bytes on a new object. */
+  private static SledgeStove tape(String name, String text, int due) {
+    SledgeStove x = new SledgeStove();
+    Due.is("bytes", Due.tape(x, text), text.length());
+    Due.is(name, x.text(), due);
+    return x;
   }
 
   private static void fullSheets() {

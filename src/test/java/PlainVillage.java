@@ -6,6 +6,8 @@ final class PlainVillage {
   /** KIND, WARMTH, WALL, LOGS, BOUND, BREAD of each house. */
   final int[][] house = new int[8][6];
   final int[] steep = {1, 1, 1, 1, 1, 1, 1};
+  /** The house that each spot holds, or -1. */
+  final int[] spot = {-1, -1, -1, -1, -1, -1, -1, -1, -1, -1};
   int houses = 0;
   int ice = 0;
   int out = 20;
@@ -13,10 +15,42 @@ final class PlainVillage {
   int left = 0;
   int quarter = 0;
   int burnt = 0;
+  int z = 1;
+  /** THE STOVE is taken away: it heats nothing. */
+  boolean away = false;
+
+  /** One like this, which goes on by itself. */
+  PlainVillage copy() {
+    PlainVillage other = new PlainVillage();
+    for (int i = 0; i < houses; i++) {
+      other.house[i] = house[i].clone();
+    }
+    System.arraycopy(steep, 0, other.steep, 0, steep.length);
+    System.arraycopy(spot, 0, other.spot, 0, spot.length);
+    other.houses = houses;
+    other.ice = ice;
+    other.out = out;
+    other.at = at;
+    other.left = left;
+    other.quarter = quarter;
+    other.burnt = burnt;
+    other.z = z;
+    other.away = away;
+    return other;
+  }
 
   void build(int kind) {
     house[houses] = new int[] {kind, 100, 10, 8, 60, 0};
     houses++;
+  }
+
+  boolean isA(int i, int kind) {
+    for (int above = house[i][0]; above >= 0; above = ABOVE[above]) {
+      if (above == kind) {
+        return true;
+      }
+    }
+    return false;
   }
 
   int heats(int i) {
@@ -112,7 +146,7 @@ final class PlainVillage {
   }
 
   private int quarterGoes() {
-    boolean burns = left == 0 && at < houses && house[at][3] >= burns(at);
+    boolean burns = !away && left == 0 && at < houses && house[at][3] >= burns(at);
     if (burns) {
       int heat = heats(at);
       house[at][3] -= burns(at);
@@ -136,13 +170,51 @@ final class PlainVillage {
     return bakes ? 1 : 0;
   }
 
+  boolean isCold(int i) {
+    return needs(i) && house[i][1] < house[i][4];
+  }
+
   int coldSet() {
     int set = 0;
     for (int i = 0; i < houses; i++) {
-      if (needs(i) && house[i][1] < house[i][4]) {
+      if (isCold(i)) {
         set |= 1 << i;
       }
     }
     return set;
+  }
+
+  /** The least WARMTH of those that NEED, 400 without. */
+  int least() {
+    int least = 400;
+    for (int i = 0; i < houses; i++) {
+      if (needs(i)) {
+        least = Math.min(least, house[i][1]);
+      }
+    }
+    return least;
+  }
+
+  /** The sum of one number of all houses, what as in of(). */
+  int sum(int what) {
+    int sum = 0;
+    for (int i = 0; i < houses; i++) {
+      sum += house[i][what];
+    }
+    return sum;
+  }
+
+  int held() {
+    int held = 0;
+    for (int house : spot) {
+      held += house >= 0 ? 1 : 0;
+    }
+    return held;
+  }
+
+  /** The draws of the document by a long number, of which the lowest 32 bits are kept. */
+  long draw() {
+    z = (int) (z * 1103515245L + 12345L);
+    return (z & 0xffffffffL) / 256;
   }
 }
